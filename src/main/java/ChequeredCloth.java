@@ -124,7 +124,7 @@ public final class ChequeredCloth {
 
     public int fire(int term, int lost) {
         boolean can = isTerm(term) && lost >= 0 && lost <= 120;
-        return can ? acts.add(Acts.FIRE, 0, term, lost) : NONE;
+        return can ? acts.add(Acts.FIRE, NONE, term, lost) : NONE;
     }
 
     public int annul(int act) {
@@ -168,7 +168,10 @@ public final class ChequeredCloth {
     }
 
     public int since(int shire, int term) {
-        return isShire(shire) && isTerm(term) ? audit.sameSince(shire, term) : NONE;
+        if (!isShire(shire) || !isTerm(term)) {
+            return NONE;
+        }
+        return audit.sameSince(audit.rollOf(shire, term, acts.size()), term);
     }
 
     public int all(int what) {
@@ -373,6 +376,7 @@ public final class ChequeredCloth {
         private final int[] fits = new int[STICKS * STICKS];
         private final int[] above = new int[MOST_CUTS + 1];
         private final int[] row = new int[MOST_CUTS + 1];
+        private final int[] goodWorths = new int[STICKS];
         private final Matcher matcher = new Matcher();
         private int grain = 3;
         private int lost = 8;
@@ -523,7 +527,7 @@ public final class ChequeredCloth {
 
         /** What a TALLY is worth, if it was GOOD when all were last matched. */
         int goodWorth(int stock) {
-            return matcher.foilOf(stock) == NONE ? 0 : worthOf(stock);
+            return isStick(stock) ? goodWorths[stock] : 0;
         }
 
         void matchAll() {
@@ -540,6 +544,9 @@ public final class ChequeredCloth {
                 }
             }
             matcher.solve();
+            for (int stock = 0; stock < STICKS; stock++) {
+                goodWorths[stock] = matcher.foilOf(stock) == NONE ? 0 : worthOf(stock);
+            }
             isMatched = true;
         }
     }
@@ -1000,12 +1007,12 @@ public final class ChequeredCloth {
                 kind = END;
                 return;
             }
-            while (stop < length && isLetter(tape[stop])) {
+            while (stop < length && tape[stop] >= 'a' && tape[stop] <= 'z') {
                 stop++;
             }
             kind = WORD;
             if (stop == at) {
-                while (stop < length && isDigit(tape[stop])) {
+                while (stop < length && tape[stop] >= '0' && tape[stop] <= '9') {
                     stop++;
                 }
                 kind = NUMBER;
@@ -1016,14 +1023,6 @@ public final class ChequeredCloth {
             } else if (wasOpenEnded && at == before) {
                 kind = GLUED;
             }
-        }
-
-        private static boolean isLetter(char sign) {
-            return sign >= 'a' && sign <= 'z';
-        }
-
-        private static boolean isDigit(char sign) {
-            return sign >= '0' && sign <= '9';
         }
     }
 
@@ -1133,6 +1132,7 @@ public final class ChequeredCloth {
         private static final int VOID = 5;
 
         private final int[] kinds = new int[MOST_ACTS + 1];
+        /** NONE for what is of all; a VOID ACT has SHIRE and TERM of the one that was not so. */
         private final int[] shires = new int[MOST_ACTS + 1];
         private final int[] terms = new int[MOST_ACTS + 1];
         private final int[] amounts = new int[MOST_ACTS + 1];
@@ -1162,7 +1162,7 @@ public final class ChequeredCloth {
         }
 
         int addWrit(int term, Writ told) {
-            int act = add(WRIT, 0, term, 0);
+            int act = add(WRIT, NONE, term, 0);
             if (act != NONE) {
                 writs[act] = told;
             }
@@ -1181,7 +1181,7 @@ public final class ChequeredCloth {
             if (!isAct(act) || kinds[act] == VOID || voidedBy[act] != 0 || isFull()) {
                 return NONE;
             }
-            voidedBy[act] = add(VOID, 0, 0, act);
+            voidedBy[act] = add(VOID, shires[act], terms[act], act);
             return voidedBy[act];
         }
 
@@ -1200,12 +1200,11 @@ public final class ChequeredCloth {
 
         /** Whether the debt of a SHIRE at the end of a TERM can be another without this ACT. */
         boolean canTouch(int act, int shire, int term) {
-            int told = isAct(act) && kinds[act] == VOID ? amounts[act] : act;
-            return isAct(told) && terms[told] <= term && (!isPayment(told) || shires[told] == shire);
+            return isAct(act) && terms[act] <= term && (shires[act] == NONE || shires[act] == shire);
         }
     }
 
-    /** What is known at an ACT, laid out by TERMS; one ACT may be left out, one PAYMENT moved. */
+    /** What is known at an ACT, laid out by TERMS; one ACT may be left out, or put elsewhere. */
     private static final class Known {
         private final Acts acts;
         private final int[] writs = new int[TERMS];
@@ -1217,13 +1216,13 @@ public final class ChequeredCloth {
             acts = allActs;
         }
 
-        void setAt(int last, int leftOut, int moved, int movedTo) {
+        void setAt(int last, int leftOut) {
             Arrays.fill(writs, 0);
             Arrays.fill(fires, 0);
             Arrays.fill(firstPayments, 0);
             for (int act = Math.min(last, acts.size()); act >= 1; act--) {
                 if (act != leftOut && acts.isKnown(act, last)) {
-                    note(act, act == moved ? movedTo : acts.terms[act]);
+                    note(act, acts.terms[act]);
                 }
             }
             for (int term = 1; term < TERMS; term++) {
@@ -1247,6 +1246,19 @@ public final class ChequeredCloth {
             return act >= 1 && act <= MOST_ACTS ? nextPayments[act] : 0;
         }
 
+        void addPayment(int act, int term) {
+            if (acts.isPayment(act) && isTerm(term)) {
+                nextPayments[act] = firstPayments[term];
+                firstPayments[term] = act;
+            }
+        }
+
+        void dropFirstPayment(int term) {
+            if (isTerm(term)) {
+                firstPayments[term] = nextPayment(firstPayments[term]);
+            }
+        }
+
         private void note(int act, int term) {
             if (!isTerm(term)) {
                 return;
@@ -1256,8 +1268,7 @@ public final class ChequeredCloth {
             } else if (acts.kinds[act] == Acts.FIRE) {
                 fires[term] = Math.max(fires[term], act);
             } else {
-                nextPayments[act] = firstPayments[term];
-                firstPayments[term] = act;
+                addPayment(act, term);
             }
         }
     }
@@ -1304,6 +1315,11 @@ public final class ChequeredCloth {
             System.arraycopy(other.putOff, 0, putOff, 0, told * AHEAD);
         }
 
+        /** What is known of a TERM is another now. */
+        void goBack(int term) {
+            told = Math.max(0, Math.min(term, told));
+        }
+
         void goTo(int term) {
             for (int now = told; now <= term && now < TERMS; now++) {
                 Writ writ = known.writOf(now);
@@ -1323,6 +1339,10 @@ public final class ChequeredCloth {
 
         int shireOf() {
             return shire;
+        }
+
+        int nextTerm() {
+            return told;
         }
 
         boolean isLike(Roll other, int term) {
@@ -1457,6 +1477,7 @@ public final class ChequeredCloth {
         private final Known otherwise;
         private final Roll[] rolls = new Roll[SHIRES];
         private final Roll trial;
+        private final Roll without;
         private int knownAt = NONE;
         private int chestAt = NONE;
         private int movedTo = NONE;
@@ -1471,6 +1492,7 @@ public final class ChequeredCloth {
                 rolls[shire] = new Roll(allActs, theChest, known, judge);
             }
             trial = new Roll(allActs, theChest, otherwise, judge);
+            without = new Roll(allActs, theChest, otherwise, judge);
         }
 
         int statementsIn(int term, int last) {
@@ -1497,15 +1519,21 @@ public final class ChequeredCloth {
             return sum;
         }
 
-        int sameSince(int shire, int term) {
-            int first = acts.size();
-            long debt = rollOf(shire, term, first).entry(term, Roll.DEBT);
-            boolean same = true;
-            while (same && first > 0) {
-                same = !acts.canTouch(first, shire, term) || debtAt(first - 1, shire, term) == debt;
-                first -= same ? 1 : 0;
+        /** The least ACT from which on a ROLL as known at the last one tells the same debt. */
+        int sameSince(Roll roll, int term) {
+            long debt = roll.entry(term, Roll.DEBT);
+            trial.beginLike(roll, term + 1);
+            for (int first = knownAt; first > 0; first--) {
+                if (acts.canTouch(first, roll.shireOf(), term)) {
+                    otherwise.setAt(first - 1, NONE);
+                    trial.goBack(acts.terms[first]);
+                    trial.goTo(term);
+                    if (trial.entry(term, Roll.DEBT) != debt) {
+                        return first;
+                    }
+                }
             }
-            return first;
+            return 0;
         }
 
         int movedTo() {
@@ -1522,8 +1550,9 @@ public final class ChequeredCloth {
                 if (acts.isKnown(act, knownAt) && acts.canTouch(act, roll.shireOf(), term)) {
                     int from = acts.terms[act];
                     int until = acts.kinds[act] == Acts.WRIT ? term : from;
-                    otherwise.setAt(knownAt, act, 0, 0);
-                    if (tellsOtherwise(roll, from, until, term, debt)) {
+                    otherwise.setAt(knownAt, act);
+                    trial.beginLike(roll, from);
+                    if (tellsOtherwise(roll, until, term, debt)) {
                         return act;
                     }
                 }
@@ -1533,7 +1562,7 @@ public final class ChequeredCloth {
 
         /**
          * The first PAYMENT known that, moved to another TERM, makes a ROLL as known tell a debt.
-         * Moved behind the TERM of that debt it would be as if left out: no need to try it there.
+         * Behind the TERM of that debt it is as if left out: no need to try it there.
          */
         int findMoved(Roll roll, int term, long debt) {
             for (int act = 1; act <= knownAt; act++) {
@@ -1542,12 +1571,17 @@ public final class ChequeredCloth {
                     continue;
                 }
                 int from = acts.terms[act];
+                otherwise.setAt(knownAt, act);
+                without.beginLike(roll, from);
+                without.goTo(term);
                 for (int to = 0; to <= term; to++) {
-                    otherwise.setAt(knownAt, 0, act, to);
-                    if (tellsOtherwise(roll, Math.min(from, to), Math.max(from, to), term, debt)) {
+                    otherwise.addPayment(act, to);
+                    trial.beginLike(to < from ? roll : without, to);
+                    if (to != from && tellsOtherwise(roll, Math.max(from, to), term, debt)) {
                         movedTo = to;
                         return act;
                     }
+                    otherwise.dropFirstPayment(to);
                 }
             }
             return NONE;
@@ -1560,26 +1594,18 @@ public final class ChequeredCloth {
             chest.matchAll();
             knownAt = last;
             chestAt = chest.changeCount();
-            known.setAt(last, 0, 0, 0);
+            known.setAt(last, NONE);
             for (int shire = 0; shire < SHIRES; shire++) {
                 rolls[shire].begin(shire);
             }
         }
 
-        private long debtAt(int last, int shire, int term) {
-            otherwise.setAt(last, 0, 0, 0);
-            trial.begin(shire);
-            trial.goTo(term);
-            return trial.entry(term, Roll.DEBT);
-        }
-
         /**
-         * Whether what is otherwise, in the TERMS from one until another, gives a debt that the
-         * ROLL as known does not tell. Where all is again as it was, it stays so.
+         * Whether what is otherwise, up to a TERM, gives a debt that the ROLL as known does not
+         * tell. Where all is again as it was, it stays so.
          */
-        private boolean tellsOtherwise(Roll roll, int from, int until, int term, long debt) {
-            trial.beginLike(roll, from);
-            for (int now = from; now <= term; now++) {
+        private boolean tellsOtherwise(Roll roll, int until, int term, long debt) {
+            for (int now = trial.nextTerm(); now <= term; now++) {
                 trial.goTo(now);
                 if (now >= until && trial.isLike(roll, now)) {
                     return false;
