@@ -274,6 +274,17 @@ final class RollTest {
             ChequeredCloth x = under("farm " + s[0] + " for all;");
             Check.due("farm " + s[0], x.roll(0, 0, 2), Long.parseLong(s[1]));
         }
+        String deep = "3";
+        for (int i = 1; i <= 6; i++) {
+            deep = "1 + 2 * max(3, " + deep + ")";
+        }
+        Check.due("six deep", under("farm " + deep + " for all;").roll(0, 0, 2), 255);
+        deep = "1 + 2 * (3 + 4 * 5) = 47";
+        for (int i = 1; i <= 5; i++) {
+            deep = "not all or all and [" + deep + "]";
+        }
+        Check.due("six deep", under("farm 1 for " + deep + ";").roll(0, 0, 2), 1);
+        Check.due("six deep", under("farm 1 for " + deep.replace("47", "48") + ";").roll(0, 0, 2), 0);
         ChequeredCloth x = under("farm term * 100 + year for all;");
         for (int term = 0; term < 40; term++) {
             Check.due("term and year of " + term, x.roll(3, term, 2), term * 100 + term / 2);

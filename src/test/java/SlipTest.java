@@ -8,6 +8,8 @@ final class SlipTest {
         leftOutFirst();
         asKnown();
         ofTallies();
+        ofNoVoidOnes();
+        ofTwoHundred();
         since();
         Check.close("SlipTest");
     }
@@ -37,6 +39,19 @@ final class SlipTest {
         }
         slip(x, 0, 1, Long.MAX_VALUE, -1, -1);
         slip(x, 0, 1, Long.MIN_VALUE, -1, -1);
+        x = new ChequeredCloth();
+        Texts.writ(x, 0, "farm 1 for all;");
+        Texts.writ(x, 1, "farm 1 for term < 3; farm 5 for term > 2;");
+        slip(x, 0, 3, 8, 0, -1);
+        slip(x, 0, 3, 4, 2, -1);
+        slip(x, 0, 3, 7, 1, -1);
+        // without the payment the debt of term 0 is the same, but as much is put off
+        x = new ChequeredCloth();
+        Texts.writ(x, 0, "farm 10 for term = 0; split 2 for debt = 10;");
+        x.pays(0, 0, 5);
+        slip(x, 0, 0, 5, 0, -1);
+        slip(x, 0, 1, 5, 0, -1);
+        slip(x, 0, 1, 10, 2, -1);
     }
 
     /** The debt doubles from one TERM to the next: one can see when something was paid. */
@@ -132,6 +147,45 @@ final class SlipTest {
         slip(x, 0, 3, 776, 0, -1);
         slip(x, 0, 3, 800, 2, -1);
         slip(x, 0, 3, 788, 2, 3);
+    }
+
+    private static void ofNoVoidOnes() {
+        ChequeredCloth x = doubled();
+        x.pays(0, 2, 10);
+        x.pays(0, 3, 10);
+        x.annul(2);
+        slip(x, 0, 4, 1600 - 20 - 40, -1, -1);
+        slip(x, 0, 4, 1600 - 40, 3, 2);
+        slip(x, 0, 4, 1600 - 10, 3, 4);
+        Check.due("pays", x.pays(0, 20, 20), 5);
+        Check.due("annul", x.annul(5), 6);
+        slip(x, 0, 4, 1600 - 20 - 20, 3, 2);
+        slip(x, 0, 4, 1600 - 20 - 40, -1, -1);
+    }
+
+    /** The last acts that there can be are like others. */
+    private static void ofTwoHundred() {
+        ChequeredCloth x = doubled();
+        for (int act = 2; act <= 196; act++) {
+            Check.due("fire " + act, x.fire(act % 40, act % 121), act);
+        }
+        Check.due("pays", x.pays(0, 2, 10), 197);
+        Check.due("pays", x.pays(0, 1, 10), 198);
+        Check.due("annul", x.annul(197), 199);
+        Check.due("pays", x.pays(0, 4, 1), 200);
+        Check.due("pays", x.pays(0, 4, 1), -1);
+        Check.due("annul(200)", x.annul(200), -1);
+        Check.due("roll", x.roll(0, 4, 0), 1600 - 80 - 1);
+        Check.due("owed", x.owed(4), 1600 * 8 - 80 - 1);
+        slip(x, 0, 4, 1600 - 80, 200, -1);
+        slip(x, 0, 4, 1600 - 1, 198, -1);
+        slip(x, 0, 4, 1600 - 80 - 2, 200, 3);
+        Check.due("since", x.since(0, 4), 200);
+        Check.due("since", x.since(0, 3), 199);
+        x.as(199);
+        Check.due("roll as known at 199", x.roll(0, 4, 0), 1600 - 80);
+        x.as(198);
+        Check.due("roll as known at 198", x.roll(0, 4, 0), 1600 - 80 - 40);
     }
 
     private static void since() {
