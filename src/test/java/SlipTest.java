@@ -47,7 +47,7 @@ final class SlipTest {
         slip(x, 0, 3, 7, 1, -1);
         // without the payment the debt of term 0 is the same, but as much is put off
         x = new ChequeredCloth();
-        Texts.writ(x, 0, "farm 10 for term = 0; split 2 for debt = 10;");
+        Texts.writ(x, 0, "farm 10 for term = 0; split 2 for debt = 10 and term = 0;");
         x.pays(0, 0, 5);
         slip(x, 0, 0, 5, 0, -1);
         slip(x, 0, 1, 5, 0, -1);
