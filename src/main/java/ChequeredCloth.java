@@ -98,6 +98,7 @@ public final class ChequeredCloth {
 
     public int writ(int term) {
         if (!isTerm(term) || acts.isFull()) {
+            reader.wipe();
             return -2;
         }
         Writ told = reader.read();
@@ -747,6 +748,11 @@ public final class ChequeredCloth {
             return true;
         }
 
+        /** The tape goes, and nothing is read. */
+        void wipe() {
+            length = 0;
+        }
+
         int faultFound() {
             return fault;
         }
@@ -773,7 +779,7 @@ public final class ChequeredCloth {
             if (good && kind != END) {
                 good = fail(TOO_MANY, at);
             }
-            length = 0;
+            wipe();
             return good ? new Writ(statements, count, code, size) : null;
         }
 

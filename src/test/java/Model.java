@@ -329,11 +329,12 @@ final class Model {
     }
 
     int writ(int term) {
+        String text = tape;
+        tape = "";
         if (!in(term, 0, 39) || acts.size() == 200) {
             return -2;
         }
-        ModelWrit writ = new ModelWrit(tape);
-        tape = "";
+        ModelWrit writ = new ModelWrit(text);
         fault = writ.fault;
         faultAt = writ.faultAt;
         return fault == 0 ? act('w', 0, term, 0, writ) : -1;

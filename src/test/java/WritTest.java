@@ -220,10 +220,11 @@ final class WritTest {
         }
         Texts.feed(x, "split 1 for all;");
         Check.due("writ(40) reads no text", x.writ(40), -2);
+        Texts.feed(x, "split 1 for all;");
         Check.due("writ(-1) reads no text", x.writ(-1), -2);
         Check.due("fault(0) after that", x.fault(0), 1);
         Check.due("fault(1) after that", x.fault(1), 5);
-        Check.due("the tape stayed: writ(0)", x.writ(0), -1);
+        Texts.writ(x, 0, "split 1 for all;");
         Check.due("fault(0)", x.fault(0), 2);
         Check.due("fault(1)", x.fault(1), 6);
         Check.due("writ(39) of nothing", x.writ(39), 1);
@@ -243,6 +244,15 @@ final class WritTest {
         Texts.feed(x, "for all;");
         Check.due("writ(0) of two pieces", x.writ(0), 2);
         Check.due("roll(0, 0, 2)", x.roll(0, 0, 2), 1);
+        for (int term : new int[] {-1, 40, Integer.MIN_VALUE, Integer.MAX_VALUE}) {
+            Texts.feed(x, "split 3 for all;");
+            Check.due("writ(" + term + ")", x.writ(term), -2);
+            Check.due("end(1) after writ(" + term + ")", x.end(1), false);
+            Check.due("feed after writ(" + term + ")", x.feed(0, 0, 0, 0, 0), 20);
+            Check.due("end(0)", x.end(0), true);
+        }
+        Check.due("writ(0) of what is left", x.writ(0), 3);
+        Check.due("force(0): nothing was left", x.force(0), 0);
     }
 
     private static void force() {
@@ -279,6 +289,8 @@ final class WritTest {
         Texts.feed(x, "split x");
         Check.due("writ 201", x.writ(0), -2);
         Check.due("its fault: no text is read", x.fault(0), 0);
+        Check.due("the tape goes all the same", x.end(1), false);
+        Check.due("feed after writ 201", x.feed(0, 0, 0, 0, 0), 20);
         Check.due("fire 201", x.fire(0, 0), -1);
         Check.due("pays 201", x.pays(0, 0, 1), -1);
         Check.due("tally 201", x.tally(0, 0, 0), -1);
