@@ -225,6 +225,10 @@ final class ActEdgesTest {
             x.pays(0, term, 240);
         }
         Check.due("without", x.roll(0, 2, 5), 240);
+        ChequeredCloth y = new ChequeredCloth();
+        y.pays(0, 2, 240);
+        Texts.writ(y, 0, "farm 1 blanched for all;");
+        Check.due("without, though the first ACT has 240", y.roll(0, 2, 5), 240);
         x.fire(1, 7);
         x.fire(3, 8);
         Check.due("without, though its neighbours have some", x.roll(0, 2, 5), 240);

@@ -268,6 +268,9 @@ final class ClothEdgesTest {
         Check.due("steps(3) by putting", with().steps(3), 3);
         Check.due("steps(5) by a six: one put, broken, one away", with().steps(5), 3);
         Check.due("steps(4) by putting, or by a six", with().steps(4), 4);
+        Check.due("steps(0) from nine twelves: one put, change, one away", with(0, 0, 9).steps(0), 3);
+        Check.due("steps(5) from nine twelves: those 3, and 3 by a six", with(0, 0, 9).steps(5), 6);
+        Check.due("steps(811): 7 twelves by one put, broken, three away", with().steps(811), 10);
         Check.says("10: STEPS to a sum (0 .. 1000000000); NONE when it can't be");
         ChequeredCloth x = with(3);
         Check.due("steps(0)", x.steps(0), 3);

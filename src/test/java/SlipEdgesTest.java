@@ -98,6 +98,43 @@ final class SlipEdgesTest {
         slip(x, 0, 0, 780, 0, -1);
         slip(x, 0, 0, 770, 4, -1);
         slip(x, 0, 0, 760, -1, -1);
+        Check.says("IV: SLIP: without it, in TERMS further on");
+        x = under("farm 1 for all;");
+        Texts.writ(x, 1, "farm 1 for term < 3; farm 5 for term > 2;");
+        slip(x, 0, 3, 8, 0, -1);
+        slip(x, 0, 2, 3, 0, -1);
+        slip(x, 0, 3, 4, 2, -1);
+        slip(x, 0, 39, 40, 2, -1);
+        Check.says("IV: SLIP: without it the debt is the same for a TERM, but not what is put off");
+        for (int n = 2; n <= 20; n++) {
+            // as much is paid as else would be put off: at the end of TERM 1 both tell the same debt
+            int part = 200 / n;
+            int stays = 200 - part * (n - 1);
+            x = under("farm 200 for term = 1; split " + n + " for debt = 200 and term = 1;");
+            x.pays(0, 1, 200 - stays);
+            slip(x, 0, 1, stays, 0, -1);
+            slip(x, 0, n, stays, 0, -1);
+            slip(x, 0, n, 200, 2, -1);
+            slip(x, 0, 2, stays + part, 2, -1);
+        }
+        Check.says("IV: SLIP: what was put off ahead of the ACT comes all the same");
+        x = under("farm 90 for term = 0; split 3 for term = 0; farm debt for term = 2;");
+        x.pays(0, 1, 5);
+        slip(x, 0, 1, 55, 0, -1);
+        slip(x, 0, 1, 60, 2, -1);
+        slip(x, 0, 2, 170, 0, -1);
+        slip(x, 0, 2, 180, 2, -1);
+        slip(x, 0, 2, 175, 2, 2);
+        // of 200 ten come in each TERM from 6 to 24
+        x = under("farm 200 for term = 5; split 20 for term = 5; farm debt for term = 20;");
+        x.pays(0, 9, 5);
+        for (int term = 9; term < 20; term++) {
+            slip(x, 0, term, 10 * (term - 4) - 5, 0, -1);
+            slip(x, 0, term, 10 * (term - 4), 2, -1);
+        }
+        slip(x, 0, 30, 2 * 160 + 40 - 10, 0, -1);
+        slip(x, 0, 30, 2 * 160 + 40, 2, -1);
+        slip(x, 0, 30, 2 * 160 + 40 - 5, 2, 20);
         Check.says("IV: SLIP: an ACT that changes nothing is none");
         x = new ChequeredCloth();
         x.pays(1, 0, 5);
@@ -188,6 +225,10 @@ final class SlipEdgesTest {
         slip(x, 0, 4, 1600 - 60 - 60, 2, 0);
         slip(x, 0, 4, 1600 - 60 - 120, 3, 0);
         slip(x, 0, 4, 1600 - 60 - 40, 3, 1);
+        x = new ChequeredCloth();
+        x.pays(0, 2, 10);
+        Texts.writ(x, 0, "farm 100 for term = 0; farm debt for term > 0 and term < 8;");
+        slip(x, 0, 4, 1600 - 20, 1, 3);
         Check.says("IV: SLIP: first what is left out, else what is moved");
         x = under("farm 20 for all;");
         x.pays(0, 5, 30);
@@ -336,6 +377,17 @@ final class SlipEdgesTest {
         }
         Check.due("since(0, 0)", x.since(0, 0), 1);
         Check.due("since(7, 39)", x.since(7, 39), 3);
+        Check.says("30: of one SHIRE after another");
+        x = under("farm 10 for all;");
+        for (int shire = 0; shire < 8; shire++) {
+            x.pays(shire, shire, 1);
+            x.pays(shire, shire, 1);
+        }
+        for (int shire = 7; shire >= 0; shire--) {
+            Check.due("since(" + shire + ", 39)", x.since(shire, 39), 2 * shire + 3);
+            Check.due("since(" + shire + ", " + shire + ")", x.since(shire, shire), 2 * shire + 3);
+            Check.due("slip", x.slip(7 - shire, 39, 399), 2 * (7 - shire) + 2);
+        }
         Check.says("30: of 200 ACTS");
         x = new ChequeredCloth();
         x.pays(0, 0, 1);

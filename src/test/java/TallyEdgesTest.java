@@ -276,6 +276,9 @@ final class TallyEdgesTest {
         x = cuts(cuts(new ChequeredCloth(), false, 0, 10, 0), false, 1, 12, 0);
         cuts(x, true, 0, 12, 0);
         mates("the one that fits best has it", x, -1, 0);
+        x = cuts(cuts(new ChequeredCloth(), false, 0, 10, 0), true, 0, 11, 0);
+        cuts(x, true, 9, 10, 0);
+        mates("ahead of the lesser number, by 1", x, 9);
         Check.says("II: THE CHEST: of several that in which the first STOCK that differs has the FOIL of the lesser number");
         int[] all = {0, 1, 2, 3, 4, 5, 6, 7, 8, 9};
         x = alike(all, all);
@@ -286,6 +289,13 @@ final class TallyEdgesTest {
         x = alike(new int[] {0, 1, 2}, new int[] {0});
         cuts(cuts(x, true, 8, 6, 0), true, 9, 4, 0);
         mates("0 first, though then the others have greater ones", x, 0, 8, 9);
+        // 8 and 9 would have 1 and 0, or 0 and 9; all four cost 2
+        x = cuts(cuts(new ChequeredCloth(), false, 8, 10, 0), false, 9, 14, 0);
+        cuts(cuts(cuts(x, true, 0, 12, 0), true, 1, 8, 0), true, 9, 16, 0);
+        mates("0 rather than 1 goes ahead of 0 rather than 9", x, -1, -1, -1, -1, -1, -1, -1, -1, 0, 9);
+        x = cuts(cuts(new ChequeredCloth(), false, 0, 10, 0), false, 1, 14, 0);
+        cuts(cuts(cuts(x, true, 8, 12, 0), true, 9, 8, 0), true, 0, 16, 0);
+        mates("8 rather than 9", x, 8, 0);
         x = cuts(cuts(new ChequeredCloth(), false, 0, 10, 0), false, 1, 10, 0);
         cuts(cuts(cuts(x, false, 2, 12, 0), true, 5, 11, 0), true, 6, 11, 0);
         mates("of three with fit 1 the first two", x, 5, 6, -1);
@@ -296,6 +306,10 @@ final class TallyEdgesTest {
         mates("the first two have them", x, 4, 9, -1, -1, -1, -1, -1, -1, -1, -1);
         x.burn(false, 0);
         mates("the next two", x, -1, 4, 9, -1);
+        // 7 without one and 8 with 1, or 7 with 1 and 8 with 2 and 9 without
+        x = cuts(cuts(cuts(new ChequeredCloth(), false, 7, 10, 0), false, 8, 14, 0), false, 9, 18, 0);
+        cuts(cuts(x, true, 1, 12, 0), true, 0, 16, 0);
+        mates("the last goes without", x, -1, -1, -1, -1, -1, -1, -1, 1, 0, -1);
     }
 
     private static void burning() {
@@ -351,6 +365,35 @@ final class TallyEdgesTest {
         }
     }
 
+    /** One object that is asked after each cut, burning and wear, and a new one each time that is not. */
+    private static void stepByStep() {
+        int[][] steps = {{0, 0, 10}, {1, 0, 12}, {0, 1, 11}, {1, 1, 9}, {0, 9, 12}, {1, 9, 10}, {0, 0, -1}, {1, 9, -1},
+            {0, 3, 8}, {1, 3, 13}, {1, 0, -1}, {0, 0, 14}, {1, 0, 11}, {0, 1, -1}, {1, 1, -1}, {1, 8, 10}, {1, 9, 15}};
+        ChequeredCloth x = new ChequeredCloth();
+        for (int i = 0; i < steps.length; i++) {
+            step(x, steps[i]);
+            ChequeredCloth fresh = new ChequeredCloth();
+            for (int j = 0; j <= i; j++) {
+                step(fresh, steps[j]);
+            }
+            Check.due("matched(1) after step " + i, x.matched(1), fresh.matched(1));
+            Check.due("matched(0) after step " + i, x.matched(0), fresh.matched(0));
+            for (int k : new int[] {0, 1, 3, 9}) {
+                Check.due("mate(" + k + ") after step " + i, x.mate(k), fresh.mate(k));
+                Check.due("fit(" + k + ", 0) after step " + i, x.fit(k, 0), fresh.fit(k, 0));
+                Check.due("fit(3, " + k + ") after step " + i, x.fit(3, k), fresh.fit(3, k));
+            }
+        }
+    }
+
+    private static void step(ChequeredCloth x, int[] step) {
+        if (step[2] < 0) {
+            x.burn(step[0] == 1, step[1]);
+        } else {
+            x.cut(step[0] == 1, step[1], step[2], 0);
+        }
+    }
+
     private static void nones() {
         ChequeredCloth x = alike(new int[] {9}, new int[] {0, 9});
         Check.says("13: SUM of a HALF; NONE when there is none such");
@@ -374,6 +417,26 @@ final class TallyEdgesTest {
         }
         x.burn(true, 9);
         Check.due("fit(9, 9), burnt", x.fit(9, 9), -1);
+        Check.says("15: FIT of the CUTS that a STOCK and a FOIL have now");
+        ChequeredCloth y = new ChequeredCloth();
+        for (int k = 0; k < 10; k++) {
+            y.cut(false, k, 5, 0);
+            y.cut(true, k, 5, 0);
+        }
+        for (int k = 0; k < 10; k += 3) {
+            for (int i = 0; i < 20; i++) {
+                y.fit(i % 10, k);
+                y.fit(k, i % 10);
+            }
+            y.cut(true, k, 100, 0);
+            for (int i = 0; i < 10; i++) {
+                Check.due("fit(" + i + ", " + k + "), a cut more", y.fit(i, k), i < k && i % 3 == 0 ? 0 : 8);
+            }
+            y.cut(false, k, 100, 0);
+            for (int i = 0; i < 10; i++) {
+                Check.due("fit(" + k + ", " + i + "), a cut more", y.fit(k, i), i <= k && i % 3 == 0 ? 0 : 8);
+            }
+        }
         Check.says("16: the FOIL of a STOCK (as things are now); NONE when it has none, or is none");
         Check.due("mate(9)", x.mate(9), 0);
         x.burn(true, 0);
@@ -386,10 +449,14 @@ final class TallyEdgesTest {
         Check.due("mate(9)", x.mate(9), 5);
         x.burn(false, 9);
         Check.due("mate(9) is none", x.mate(9), -1);
+        stepByStep();
         for (int k : NO_STICKS) {
             Check.due("mate(" + k + ")", x.mate(k), -1);
         }
         Check.says("17: 0 how many pairs, 1 the sum of FIT; NONE for others");
+        x = apart(3);
+        Check.due("matched(1), asked first", x.matched(1), 3);
+        Check.due("matched(0), asked first", apart(3).matched(0), 1);
         x = cuts(alike(new int[] {1}, new int[] {2}), true, 0, 200, 0);
         Check.due("matched(0)", x.matched(0), 1);
         Check.due("matched(1)", x.matched(1), 0);

@@ -419,6 +419,15 @@ final class WritEdgesTest {
         bad(1, "farm 1 ^blanche for all;");
         bad(1, "farm 1 for all ^an all;");
         bad(1, "farm 1 for all;^spli");
+        bad(1, "^farmz 1 for all;");
+        bad(1, "^afarm 1 for all;");
+        bad(1, "farm 1 ^zfor all;");
+        Check.says("III: FAULT 1: what is no letter, digit or sign of a WRIT, at itself");
+        for (char c : new char[] {'A', 'Z', '@', '[' - 1, '`', '{', '~', '_', '.', ':', '?', '$', 0xe9}) {
+            bad(1, "farm^" + c + " 1 for all;");
+            bad(1, "farm 1^" + c + " for all;");
+            bad(1, "farm 1 for all^" + c + ";");
+        }
         Check.says("III: FAULT 1: numbers whole, at their first byte");
         bad(1, "^12 for all;");
         bad(1, "^123456 for all;");
@@ -640,6 +649,18 @@ final class WritEdgesTest {
         Texts.writ(x, 0, "");
         Check.due("fault(0)", x.fault(0), 0);
         Check.due("fault(1)", x.fault(1), -1);
+        Check.says("19: each text is read anew");
+        for (int i = 0; i < 6; i++) {
+            Check.due("a text that leaves six open", Texts.writ(x, 0, "farm ((((((" + times(60, "1+") + "("), -1);
+            Check.due("its fault", x.fault(0), 3);
+        }
+        for (int i = 0; i < 3; i++) {
+            Check.due("a text with six open", Texts.writ(x, 0, "farm ((((((1)))))) for [[[[[[all]]]]]];"), i + 3);
+        }
+        Check.due("its farm", x.roll(0, 0, 2), 1);
+        Check.due("a text that leaves a statement half read", Texts.writ(x, 0, SPLIT + SPLIT + "split 3"), -1);
+        Check.due("an empty one behind it", Texts.writ(x, 0, ""), 6);
+        Check.due("it has none", x.force(0), 0);
         Check.says("19: NONE for another what");
         Texts.writ(x, 0, "split 1");
         for (int what : new int[] {-1, 2, Integer.MIN_VALUE, Integer.MAX_VALUE}) {
