@@ -21,15 +21,9 @@ final class SlipEdgesTest {
         sinceWhatIsKnown();
     }
 
-    private static ChequeredCloth under(String text) {
-        ChequeredCloth x = new ChequeredCloth();
-        Check.due("writ of \"" + text + "\"", Texts.writ(x, 0, text), 1);
-        return x;
-    }
-
     /** 100 in TERM 0, doubled in each TERM up to 7: one can see when something was paid. */
     private static ChequeredCloth doubled() {
-        return under("farm 100 for term = 0; farm debt for term > 0 and term < 8;");
+        return Ask.under("farm 100 for term = 0; farm debt for term > 0 and term < 8;");
     }
 
     private static void slip(ChequeredCloth x, int shire, int term, long told, int act, int moved) {
@@ -48,11 +42,11 @@ final class SlipEdgesTest {
         slip(x, 0, 0, -4, -1, -1);
         slip(x, 0, 0, -6, -1, -1);
         slip(x, 0, 0, 0, 1, -1);
-        x = under("farm 100 blanched for all; farm 0 for all;");
+        x = Ask.under("farm 100 blanched for all; farm 0 for all;");
         x.fire(0, 0);
         slip(x, 0, 0, 100, 0, -1);
         Check.says("IV: SLIP: at the end of a TERM");
-        x = under("farm 10 for all;");
+        x = Ask.under("farm 10 for all;");
         x.pays(0, 1, 4);
         slip(x, 0, 0, 10, 0, -1);
         slip(x, 0, 0, 6, 2, 0);
@@ -60,7 +54,7 @@ final class SlipEdgesTest {
         slip(x, 0, 1, 20, 2, -1);
         slip(x, 0, 39, 396, 0, -1);
         slip(x, 0, 39, 400, 2, -1);
-        x = under("farm 4 for term = 0; split 2 for term = 0;");
+        x = Ask.under("farm 4 for term = 0; split 2 for term = 0;");
         slip(x, 0, 0, 2, 0, -1);
         slip(x, 0, 0, 4, -1, -1);
         slip(x, 0, 1, 4, 0, -1);
@@ -68,7 +62,7 @@ final class SlipEdgesTest {
 
     private static void leftOut() {
         Check.says("IV: SLIP: the first ACT (WRIT, PAYMENT, FIRE) so that without it it tells that debt");
-        ChequeredCloth x = under("farm 1000 blanched for all;");
+        ChequeredCloth x = Ask.under("farm 1000 blanched for all;");
         x.fire(0, 24);
         x.pays(0, 0, 240);
         x.tally(0, 0, 0);
@@ -83,7 +77,7 @@ final class SlipEdgesTest {
         x.pays(0, 0, 240);
         slip(x, 0, 0, 1000 - 2 * 216 - 12, 3, -1);
         Check.says("IV: SLIP: without it, all others as known");
-        x = under("farm 10 for all;");
+        x = Ask.under("farm 10 for all;");
         Texts.writ(x, 2, "farm 7 for all;");
         Texts.writ(x, 4, "farm 1 for all;");
         slip(x, 0, 5, 36, 0, -1);
@@ -91,7 +85,7 @@ final class SlipEdgesTest {
         slip(x, 0, 5, 42, 2, -1);
         slip(x, 0, 5, 48, 3, -1);
         slip(x, 0, 5, 16, 1, -1);
-        x = under("farm 1000 blanched for all;");
+        x = Ask.under("farm 1000 blanched for all;");
         x.pays(0, 0, 240);
         x.fire(0, 10);
         x.fire(0, 20);
@@ -99,7 +93,7 @@ final class SlipEdgesTest {
         slip(x, 0, 0, 770, 4, -1);
         slip(x, 0, 0, 760, -1, -1);
         Check.says("IV: SLIP: without it, in TERMS further on");
-        x = under("farm 1 for all;");
+        x = Ask.under("farm 1 for all;");
         Texts.writ(x, 1, "farm 1 for term < 3; farm 5 for term > 2;");
         slip(x, 0, 3, 8, 0, -1);
         slip(x, 0, 2, 3, 0, -1);
@@ -110,7 +104,7 @@ final class SlipEdgesTest {
             // as much is paid as else would be put off: at the end of TERM 1 both tell the same debt
             int part = 200 / n;
             int stays = 200 - part * (n - 1);
-            x = under("farm 200 for term = 1; split " + n + " for debt = 200 and term = 1;");
+            x = Ask.under("farm 200 for term = 1; split " + n + " for debt = 200 and term = 1;");
             x.pays(0, 1, 200 - stays);
             slip(x, 0, 1, stays, 0, -1);
             slip(x, 0, n, stays, 0, -1);
@@ -118,7 +112,7 @@ final class SlipEdgesTest {
             slip(x, 0, 2, stays + part, 2, -1);
         }
         Check.says("IV: SLIP: what was put off ahead of the ACT comes all the same");
-        x = under("farm 90 for term = 0; split 3 for term = 0; farm debt for term = 2;");
+        x = Ask.under("farm 90 for term = 0; split 3 for term = 0; farm debt for term = 2;");
         x.pays(0, 1, 5);
         slip(x, 0, 1, 55, 0, -1);
         slip(x, 0, 1, 60, 2, -1);
@@ -126,7 +120,7 @@ final class SlipEdgesTest {
         slip(x, 0, 2, 180, 2, -1);
         slip(x, 0, 2, 175, 2, 2);
         // of 200 ten come in each TERM from 6 to 24
-        x = under("farm 200 for term = 5; split 20 for term = 5; farm debt for term = 20;");
+        x = Ask.under("farm 200 for term = 5; split 20 for term = 5; farm debt for term = 20;");
         x.pays(0, 9, 5);
         for (int term = 9; term < 20; term++) {
             slip(x, 0, term, 10 * (term - 4) - 5, 0, -1);
@@ -195,7 +189,7 @@ final class SlipEdgesTest {
         slip(x, 0, 1, 190, 2, 1);
         slip(x, 0, 1, 180, 2, 0);
         Check.says("IV: SLIP: by TALLY, and by FIRE of the other TERM");
-        x = under("farm 1000 blanched for all;");
+        x = Ask.under("farm 1000 blanched for all;");
         x.fire(1, 120);
         x.fire(2, 60);
         x.pays(0, 0, 240);
@@ -230,7 +224,7 @@ final class SlipEdgesTest {
         Texts.writ(x, 0, "farm 100 for term = 0; farm debt for term > 0 and term < 8;");
         slip(x, 0, 4, 1600 - 20, 1, 3);
         Check.says("IV: SLIP: first what is left out, else what is moved");
-        x = under("farm 20 for all;");
+        x = Ask.under("farm 20 for all;");
         x.pays(0, 5, 30);
         x.pays(0, 1, 20);
         slip(x, 0, 2, 60 - 50, 2, 0);
@@ -238,7 +232,7 @@ final class SlipEdgesTest {
         slip(x, 0, 0, 20 - 30, 2, 0);
         // 3 moved to 0 tells 0, too, but the writ left out goes first
         slip(x, 0, 0, 20 - 20, 1, -1);
-        x = under("farm 20 for all; farm 1 for shire 0;");
+        x = Ask.under("farm 20 for all; farm 1 for shire 0;");
         x.pays(0, 5, 30);
         x.pays(0, 1, 20);
         slip(x, 0, 0, 21 - 20, 3, 0);
@@ -246,7 +240,7 @@ final class SlipEdgesTest {
 
     private static void leastTerm() {
         Check.says("IV: SLIP: the least other TERM");
-        ChequeredCloth x = under("farm 1000 blanched for term = 1 or term = 4 or term = 6;");
+        ChequeredCloth x = Ask.under("farm 1000 blanched for term = 1 or term = 4 or term = 6;");
         x.fire(1, 120);
         x.fire(4, 120);
         x.fire(6, 120);
@@ -259,7 +253,7 @@ final class SlipEdgesTest {
         x.annul(4);
         slip(x, 0, 6, 3000 - 120, -1, -1);
         Check.says("IV: SLIP: the least other TERM of it: 0 .. 39");
-        x = under("farm 1000 blanched for term = 0 or term = 39;");
+        x = Ask.under("farm 1000 blanched for term = 0 or term = 39;");
         x.fire(39, 120);
         x.pays(0, 20, 240);
         slip(x, 0, 39, 2000 - 240, 0, -1);
@@ -267,7 +261,7 @@ final class SlipEdgesTest {
         slip(x, 0, 38, 1000, 3, -1);
         x.fire(0, 120);
         slip(x, 0, 39, 2000 - 120, 3, 0);
-        x = under("farm 1000 blanched for all;");
+        x = Ask.under("farm 1000 blanched for all;");
         x.fire(0, 120);
         x.pays(0, 0, 240);
         slip(x, 0, 39, 40000 - 120, 0, -1);
@@ -275,7 +269,7 @@ final class SlipEdgesTest {
         x.pays(0, 0, 2);
         slip(x, 0, 39, 40000 - 120 - 2, 4, 1);
         Check.says("IV: SLIP: its own TERM is none");
-        x = under("farm 1000 for all;");
+        x = Ask.under("farm 1000 for all;");
         x.pays(0, 0, 7);
         x.pays(0, 1, 8);
         slip(x, 0, 0, 1000 - 7 - 8, 3, 0);
@@ -285,7 +279,7 @@ final class SlipEdgesTest {
 
     private static void none() {
         Check.says("28: -1 when there is none");
-        ChequeredCloth x = under("farm 10 for all;");
+        ChequeredCloth x = Ask.under("farm 10 for all;");
         x.pays(0, 0, 4);
         for (long told : new long[] {5, 7, 11, -5, Long.MAX_VALUE, Long.MIN_VALUE, 6 + (1L << 32)}) {
             slip(x, 0, 0, told, -1, -1);
@@ -297,7 +291,7 @@ final class SlipEdgesTest {
 
     private static void noSuch() {
         Check.says("28: -2 when there is no such SHIRE, TERM");
-        ChequeredCloth x = under("farm 10 for all;");
+        ChequeredCloth x = Ask.under("farm 10 for all;");
         for (int shire : NO_SHIRES) {
             Check.due("slip(" + shire + ", 0, 10)", x.slip(shire, 0, 10), -2);
         }
@@ -378,7 +372,7 @@ final class SlipEdgesTest {
         Check.due("since(0, 0)", x.since(0, 0), 1);
         Check.due("since(7, 39)", x.since(7, 39), 3);
         Check.says("30: of one SHIRE after another");
-        x = under("farm 10 for all;");
+        x = Ask.under("farm 10 for all;");
         for (int shire = 0; shire < 8; shire++) {
             x.pays(shire, shire, 1);
             x.pays(shire, shire, 1);

@@ -15,28 +15,6 @@ final class WritTest {
         Check.close("WritTest");
     }
 
-    /** The text is a WRIT of so many STATEMENTS. */
-    private static void good(String text, int statements) {
-        ChequeredCloth x = new ChequeredCloth();
-        Check.due("writ of \"" + text + "\"", Texts.writ(x, 7, text), 1);
-        Check.due("force(7) by \"" + text + "\"", x.force(7), statements);
-        Check.due("fault(0) of \"" + text + "\"", x.fault(0), 0);
-        Check.due("fault(1) of \"" + text + "\"", x.fault(1), -1);
-        Check.due("all(0)", x.all(0), 1);
-    }
-
-    /** The text, but for a mark ^ in it, has a FAULT at that mark. */
-    private static void bad(int fault, String marked) {
-        int place = marked.indexOf('^');
-        String text = marked.substring(0, place) + marked.substring(place + 1);
-        ChequeredCloth x = new ChequeredCloth();
-        Check.due("writ of \"" + text + "\"", Texts.writ(x, 7, text), -1);
-        Check.due("fault(0) of \"" + text + "\"", x.fault(0), fault);
-        Check.due("fault(1) of \"" + text + "\"", x.fault(1), place);
-        Check.due("force(7)", x.force(7), -1);
-        Check.due("all(0)", x.all(0), 0);
-    }
-
     private static void tape() {
         ChequeredCloth x = new ChequeredCloth();
         for (int i = 1; i <= 30; i++) {
@@ -73,124 +51,124 @@ final class WritTest {
     }
 
     private static void whole() {
-        good("", 0);
-        good("   \n ", 0);
-        good("farm 1 for all;", 1);
-        good("\n farm\n1\nfor\nall\n;\n", 1);
-        good("farm(1)for[all];", 1);
-        good("farm 99999 pounds blanched for all;", 1);
-        good("farm 00005 for all;", 1);
-        good("farm 1 pence+2 shillings-3 pounds*4/term+year-debt+paid for all;", 1);
-        good("allow min(1,2)+max ( 3 , ( 4 ) ) for shire 0 or shire 7 and not all;", 1);
-        good("pardon 999 in 999 for all;pardon 1 in 1 for all;pardon 1 in 999 for 1<2;", 3);
-        good("split 2 for all;split 20 for debt > 1;split 00003 for term=year;", 3);
-        good("farm 1 for not[not all]and[1=1 or[2=2]];", 1);
-        good("farm ((((((1)))))) for all;", 1);
-        good("farm 1 for not not not not not not all;", 1);
-        good("farm 1 for [[[[[[all]]]]]];", 1);
-        good("farm 1 for not [ not [ (1) = min((1), 2) ] ] or not not not not not not all;", 1);
-        good("farm (1)*(1)*(1)*(1)*(1)*(1)*(1)*(1) for not all and not all and not all and not all and not all "
+        Ask.good("", 0);
+        Ask.good("   \n ", 0);
+        Ask.good("farm 1 for all;", 1);
+        Ask.good("\n farm\n1\nfor\nall\n;\n", 1);
+        Ask.good("farm(1)for[all];", 1);
+        Ask.good("farm 99999 pounds blanched for all;", 1);
+        Ask.good("farm 00005 for all;", 1);
+        Ask.good("farm 1 pence+2 shillings-3 pounds*4/term+year-debt+paid for all;", 1);
+        Ask.good("allow min(1,2)+max ( 3 , ( 4 ) ) for shire 0 or shire 7 and not all;", 1);
+        Ask.good("pardon 999 in 999 for all;pardon 1 in 1 for all;pardon 1 in 999 for 1<2;", 3);
+        Ask.good("split 2 for all;split 20 for debt > 1;split 00003 for term=year;", 3);
+        Ask.good("farm 1 for not[not all]and[1=1 or[2=2]];", 1);
+        Ask.good("farm ((((((1)))))) for all;", 1);
+        Ask.good("farm 1 for not not not not not not all;", 1);
+        Ask.good("farm 1 for [[[[[[all]]]]]];", 1);
+        Ask.good("farm 1 for not [ not [ (1) = min((1), 2) ] ] or not not not not not not all;", 1);
+        Ask.good("farm (1)*(1)*(1)*(1)*(1)*(1)*(1)*(1) for not all and not all and not all and not all and not all "
                 + "and not all and not all;", 1);
     }
 
     private static void noWay() {
-        bad(1, "^farms 1 for all;");
-        bad(1, "^far");
-        bad(1, "^;");
-        bad(1, "^for all;");
-        bad(1, "^Farm 1 for all;");
-        bad(1, "farm^5 for all;");
-        bad(1, "farm 5^pounds for all;");
-        bad(1, "farm 5 pounds^3 for all;");
-        bad(1, "farm 5 ^5 for all;");
-        bad(1, "farm 5 pounds ^pounds for all;");
-        bad(1, "farm term ^pounds for all;");
-        bad(1, "farm (1) ^pounds for all;");
-        bad(1, "farm 1 ^\tfor all;");
-        bad(1, "farm 12345^6 for all;");
-        bad(1, "farm 00000^0 for all;");
-        bad(1, "farm^123456 for all;");
-        bad(1, "farm 1 ^123456 for all;");
-        bad(1, "farm 1 for all;^123456");
-        bad(1, "farm ^for all;");
-        bad(1, "farm ^blanched for all;");
-        bad(1, "farm ^-1 for all;");
-        bad(1, "farm 1 blanched ^blanched for all;");
-        bad(1, "allow 1 ^blanched for all;");
-        bad(1, "farm ^[1] for all;");
-        bad(1, "farm (1^] for all;");
-        bad(1, "farm (1^, 2) for all;");
-        bad(1, "farm () for all;".replace("()", "(^)"));
-        bad(1, "farm max(1, 2^, 3) for all;");
-        bad(1, "farm min^[1, 2] for all;");
-        bad(1, "farm 1 ^all;");
-        bad(1, "farm 1 for ^;");
-        bad(1, "farm 1 for all ^all;");
-        bad(1, "farm 1 for all and ^and all;");
-        bad(1, "farm 1 for (^all);");
-        bad(1, "farm 1 for (1 ^< 2);");
-        bad(1, "farm 1 for [1^];");
-        bad(1, "farm 1 for 1 < 2 ^< 3;");
-        bad(1, "farm 1 for 1 <^= 2;");
-        bad(1, "farm 1 for shire ^term;");
-        bad(1, "farm 1 for shire^1;");
-        bad(1, "farm 1 for shire 1^or all;");
-        bad(1, "farm 1 for shire 00000^7;");
-        bad(1, "farm 1 for not^5;");
-        bad(1, "farm 1 for all^5;");
-        bad(1, "pardon ^in 5 for all;");
-        bad(1, "pardon 1 ^for all;");
-        bad(1, "pardon 1^in 5 for all;");
-        bad(1, "pardon 1 in^5 for all;");
-        bad(1, "pardon 00000^1 in 5 for all;");
-        bad(1, "pardon 5 in 10000^0 for all;");
-        bad(1, "pardon ^(1) in 5 for all;");
-        bad(1, "split ^term for all;");
-        bad(1, "split 2^for all;");
-        bad(1, "split 10000^0 for all;");
-        bad(1, "split^21 for all;");
-        bad(1, "farm 1 for all;^x");
-        bad(1, "farm 1 for all;^;");
+        Ask.bad(1, "^farms 1 for all;");
+        Ask.bad(1, "^far");
+        Ask.bad(1, "^;");
+        Ask.bad(1, "^for all;");
+        Ask.bad(1, "^Farm 1 for all;");
+        Ask.bad(1, "farm^5 for all;");
+        Ask.bad(1, "farm 5^pounds for all;");
+        Ask.bad(1, "farm 5 pounds^3 for all;");
+        Ask.bad(1, "farm 5 ^5 for all;");
+        Ask.bad(1, "farm 5 pounds ^pounds for all;");
+        Ask.bad(1, "farm term ^pounds for all;");
+        Ask.bad(1, "farm (1) ^pounds for all;");
+        Ask.bad(1, "farm 1 ^\tfor all;");
+        Ask.bad(1, "farm 12345^6 for all;");
+        Ask.bad(1, "farm 00000^0 for all;");
+        Ask.bad(1, "farm^123456 for all;");
+        Ask.bad(1, "farm 1 ^123456 for all;");
+        Ask.bad(1, "farm 1 for all;^123456");
+        Ask.bad(1, "farm ^for all;");
+        Ask.bad(1, "farm ^blanched for all;");
+        Ask.bad(1, "farm ^-1 for all;");
+        Ask.bad(1, "farm 1 blanched ^blanched for all;");
+        Ask.bad(1, "allow 1 ^blanched for all;");
+        Ask.bad(1, "farm ^[1] for all;");
+        Ask.bad(1, "farm (1^] for all;");
+        Ask.bad(1, "farm (1^, 2) for all;");
+        Ask.bad(1, "farm () for all;".replace("()", "(^)"));
+        Ask.bad(1, "farm max(1, 2^, 3) for all;");
+        Ask.bad(1, "farm min^[1, 2] for all;");
+        Ask.bad(1, "farm 1 ^all;");
+        Ask.bad(1, "farm 1 for ^;");
+        Ask.bad(1, "farm 1 for all ^all;");
+        Ask.bad(1, "farm 1 for all and ^and all;");
+        Ask.bad(1, "farm 1 for (^all);");
+        Ask.bad(1, "farm 1 for (1 ^< 2);");
+        Ask.bad(1, "farm 1 for [1^];");
+        Ask.bad(1, "farm 1 for 1 < 2 ^< 3;");
+        Ask.bad(1, "farm 1 for 1 <^= 2;");
+        Ask.bad(1, "farm 1 for shire ^term;");
+        Ask.bad(1, "farm 1 for shire^1;");
+        Ask.bad(1, "farm 1 for shire 1^or all;");
+        Ask.bad(1, "farm 1 for shire 00000^7;");
+        Ask.bad(1, "farm 1 for not^5;");
+        Ask.bad(1, "farm 1 for all^5;");
+        Ask.bad(1, "pardon ^in 5 for all;");
+        Ask.bad(1, "pardon 1 ^for all;");
+        Ask.bad(1, "pardon 1^in 5 for all;");
+        Ask.bad(1, "pardon 1 in^5 for all;");
+        Ask.bad(1, "pardon 00000^1 in 5 for all;");
+        Ask.bad(1, "pardon 5 in 10000^0 for all;");
+        Ask.bad(1, "pardon ^(1) in 5 for all;");
+        Ask.bad(1, "split ^term for all;");
+        Ask.bad(1, "split 2^for all;");
+        Ask.bad(1, "split 10000^0 for all;");
+        Ask.bad(1, "split^21 for all;");
+        Ask.bad(1, "farm 1 for all;^x");
+        Ask.bad(1, "farm 1 for all;^;");
         // the text's length, where it ends too soon
-        bad(1, "farm^");
-        bad(1, "farm ^");
-        bad(1, "farm 1^");
-        bad(1, "farm 1 for^");
-        bad(1, "farm 1 for all  \n^");
-        bad(1, "farm 1 for all; pardon 5 in^");
-        bad(1, "farm 1 for [not shire 3 or ^");
-        bad(1, "farm min(1, 2^");
+        Ask.bad(1, "farm^");
+        Ask.bad(1, "farm ^");
+        Ask.bad(1, "farm 1^");
+        Ask.bad(1, "farm 1 for^");
+        Ask.bad(1, "farm 1 for all  \n^");
+        Ask.bad(1, "farm 1 for all; pardon 5 in^");
+        Ask.bad(1, "farm 1 for [not shire 3 or ^");
+        Ask.bad(1, "farm min(1, 2^");
     }
 
     private static void badNumbers() {
-        bad(2, "split ^0 for all;");
-        bad(2, "split ^1 for all;");
-        bad(2, "split ^21 for all;");
-        bad(2, "split ^99999 for all;");
-        bad(2, "split ^00001for all;");
-        bad(2, "pardon ^0 in 5 for all;");
-        bad(2, "pardon ^1000 in 5 for all;");
-        bad(2, "pardon ^1000 x");
-        bad(2, "pardon 5 in ^4 for all;");
-        bad(2, "pardon 5 in ^0 for all;");
-        bad(2, "pardon 5 in ^1000 for all;");
-        bad(2, "farm 1 for shire ^8;");
-        bad(2, "farm 1 for all; farm 1 for all or shire ^00008 x");
+        Ask.bad(2, "split ^0 for all;");
+        Ask.bad(2, "split ^1 for all;");
+        Ask.bad(2, "split ^21 for all;");
+        Ask.bad(2, "split ^99999 for all;");
+        Ask.bad(2, "split ^00001for all;");
+        Ask.bad(2, "pardon ^0 in 5 for all;");
+        Ask.bad(2, "pardon ^1000 in 5 for all;");
+        Ask.bad(2, "pardon ^1000 x");
+        Ask.bad(2, "pardon 5 in ^4 for all;");
+        Ask.bad(2, "pardon 5 in ^0 for all;");
+        Ask.bad(2, "pardon 5 in ^1000 for all;");
+        Ask.bad(2, "farm 1 for shire ^8;");
+        Ask.bad(2, "farm 1 for all; farm 1 for all or shire ^00008 x");
     }
 
     private static void tooDeep() {
-        bad(3, "farm ((((((^(1))))))) for all;");
-        bad(3, "farm 1 for not not not not not not ^not all;");
-        bad(3, "farm 1 for [[[[[[^[all]]]]]]];");
-        bad(3, "farm 1 for [not [not [(1 + max^(2, 3)) = 4]]];");
-        bad(3, "farm 1 for not not not not not not ^(1) = 1;");
-        bad(3, "farm 1 for not not not not not [1 = ^(1)];");
-        bad(3, "farm min(min(min(min(min(min(1, 2), 3), 4), 5), 6), min(min(min(min(min(min^(");
+        Ask.bad(3, "farm ((((((^(1))))))) for all;");
+        Ask.bad(3, "farm 1 for not not not not not not ^not all;");
+        Ask.bad(3, "farm 1 for [[[[[[^[all]]]]]]];");
+        Ask.bad(3, "farm 1 for [not [not [(1 + max^(2, 3)) = 4]]];");
+        Ask.bad(3, "farm 1 for not not not not not not ^(1) = 1;");
+        Ask.bad(3, "farm 1 for not not not not not [1 = ^(1)];");
+        Ask.bad(3, "farm min(min(min(min(min(min(1, 2), 3), 4), 5), 6), min(min(min(min(min(min^(");
         // what can't stand there is no 7th
-        bad(1, "farm ((((((^[1 for all;");
-        bad(1, "farm 1 for [[[[[[all ^[");
-        bad(1, "farm ((((((1 ^(2");
-        bad(1, "farm 1 for not not not not not not min^1");
+        Ask.bad(1, "farm ((((((^[1 for all;");
+        Ask.bad(1, "farm 1 for [[[[[[all ^[");
+        Ask.bad(1, "farm ((((((1 ^(2");
+        Ask.bad(1, "farm 1 for not not not not not not min^1");
     }
 
     private static void tooMany() {
@@ -198,16 +176,16 @@ final class WritTest {
         for (int i = 0; i < 24; i++) {
             text.append("split 2 for all;");
         }
-        good(text.toString(), 24);
-        good(text + " \n", 24);
-        bad(4, text + "^split 2 for all;");
-        bad(4, text + " ^x");
-        bad(4, text + " \n^;");
-        bad(4, text + "^123456");
-        bad(4, text + "^!");
-        bad(4, text + "^split 99 for all;");
-        bad(1, text.substring(0, text.length() - 1) + " ^x");
-        bad(1, text.substring(0, text.length() - 4) + "^allx");
+        Ask.good(text.toString(), 24);
+        Ask.good(text + " \n", 24);
+        Ask.bad(4, text + "^split 2 for all;");
+        Ask.bad(4, text + " ^x");
+        Ask.bad(4, text + " \n^;");
+        Ask.bad(4, text + "^123456");
+        Ask.bad(4, text + "^!");
+        Ask.bad(4, text + "^split 99 for all;");
+        Ask.bad(1, text.substring(0, text.length() - 1) + " ^x");
+        Ask.bad(1, text.substring(0, text.length() - 4) + "^allx");
     }
 
     private static void faultOfLatest() {
