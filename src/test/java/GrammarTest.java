@@ -61,9 +61,8 @@ final class GrammarTest {
             GrammarTest reading = new GrammarTest(told);
             reading.read();
             found[reading.fault]++;
-            if (x.all(0) > 190) {
-                x = new ChequeredCloth();
-            }
+            // each text takes 36 calls at most, and an object is used for 512
+            x = i % 14 == 0 ? new ChequeredCloth() : x;
             int acts = x.all(0);
             String shown = told.replace("\n", "\\n");
             Check.due("writ of \"" + shown + "\"", Texts.writ(x, 3, told), reading.fault == 0 ? acts + 1 : -1);

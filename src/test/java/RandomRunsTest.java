@@ -4,6 +4,9 @@ final class RandomRunsTest {
     private final ChequeredCloth x = new ChequeredCloth();
     private final Model m = new Model();
     private final StringBuilder calls = new StringBuilder();
+    /** An object is used for 512 calls; the longest of what is done at once, a WRIT, takes 36. */
+    private static final int MOST_CALLS = 512 - 36;
+    private int called = 0;
     private static final int[] KINDS = new int[8];
 
     private RandomRunsTest(long seed) {
@@ -11,7 +14,7 @@ final class RandomRunsTest {
     }
 
     public static void main(String[] args) {
-        int runs = args.length > 1 ? Integer.parseInt(args[1]) : 400;
+        int runs = args.length > 1 ? Integer.parseInt(args[1]) : 1000;
         long first = args.length > 2 ? Long.parseLong(args[2]) : 1;
         for (long seed = first; seed < first + runs; seed++) {
             RandomRunsTest run = new RandomRunsTest(seed);
@@ -32,13 +35,14 @@ final class RandomRunsTest {
     }
 
     private void due(String call, long got, long want) {
+        called++;
         calls.append("\n  ").append(call).append(" -> ").append(got).append(got == want ? "" : " due " + want);
         Check.due(call, got, want);
     }
 
     private void go(int theme) {
         int before = Check.wrongs();
-        for (int i = 0; i < 500 && Check.wrongs() == before; i++) {
+        for (int i = 0; i < 500 && called <= MOST_CALLS && Check.wrongs() == before; i++) {
             int kind = theme == 3 ? dice.of(3) : dice.in(6) ? dice.of(3) : theme;
             if (kind == 0) {
                 cloth();
@@ -101,8 +105,8 @@ final class RandomRunsTest {
             default:
                 due("worth()", x.worth(), m.worth());
         }
-        for (int p = 0; p < 13; p++) {
-            Check.due("lies(" + p + ")", x.lies(p), m.lies(p));
+        for (int p = 0; p < 13 && dice.of(8) > 0; p++) {
+            due("lies(" + p + ")", x.lies(p), m.lies(p));
         }
     }
 
@@ -261,15 +265,15 @@ final class RandomRunsTest {
         if (dice.in(3)) {
             text = Texts.marred(dice, text);
         }
-        for (int i = 0; i < text.length(); i += 20) {
+        for (int i = 0; i < text.length() && i < 640; i += 20) {
             int[] w = new int[5];
             for (int j = 0; j < 5; j++) {
                 w[j] = Texts.word(text, i + 4 * j);
             }
-            Check.due("feed", x.feed(w[0], w[1], w[2], w[3], w[4]), m.feed(w));
+            due("feed of twenty bytes", x.feed(w[0], w[1], w[2], w[3], w[4]), m.feed(w));
         }
         int n = dice.in(20) ? dice.any() : Math.min(text.length(), 600);
-        Check.due("end(" + n + ")", x.end(n), m.end(n));
+        due("end(" + n + ")", x.end(n) ? 1 : 0, m.end(n) ? 1 : 0);
         int term = dice.in(20) ? dice.any() : dice.in(2) ? 0 : term();
         String said = m.tape;
         int answer = m.writ(term);

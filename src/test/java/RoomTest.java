@@ -16,6 +16,8 @@ final class RoomTest {
         before = made();
         run(x, 512);
         long calls = made() - before;
+        x = new ChequeredCloth();
+        run(x, 256);
         before = made();
         dearCalls(x);
         long dear = made() - before;
@@ -30,13 +32,14 @@ final class RoomTest {
         return BEAN.getThreadAllocatedBytes(Thread.currentThread().getId());
     }
 
+    /** At most so many calls; each WRIT with what is asked then takes sixteen. */
     private static void run(ChequeredCloth x, int calls) {
         int i = 0;
         for (int k = 0; k < 10; k++, i += 2) {
             x.cut(false, k, k, 2);
             x.cut(true, k, k + 1, 2);
         }
-        while (i < calls) {
+        while (i + 16 <= calls) {
             for (int j = 0; j < DEAR.length(); j += 20, i++) {
                 x.feed(Texts.word(DEAR, j), Texts.word(DEAR, j + 4), Texts.word(DEAR, j + 8),
                         Texts.word(DEAR, j + 12), Texts.word(DEAR, j + 16));
@@ -52,7 +55,7 @@ final class RoomTest {
     }
 
     private static void dearCalls(ChequeredCloth x) {
-        for (int i = 0; i < 100; i++) {
+        for (int i = 0; i < 256 / 8; i++) {
             x.wear(i % 20, 8, 20);
             x.mate(0);
             x.roll(i % 8, 39, 0);
