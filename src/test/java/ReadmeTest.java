@@ -11,8 +11,6 @@ import java.util.List;
 import java.util.TreeSet;
 import java.util.regex.Matcher;
 import java.util.regex.Pattern;
-import javax.tools.JavaCompiler;
-import javax.tools.ToolProvider;
 
 /** Each call that README.md shows gives the answer that it shows, and its table tells of each call of the face. */
 public final class ReadmeTest {
@@ -25,7 +23,7 @@ public final class ReadmeTest {
     private final StringBuilder steps = new StringBuilder();
     private int parts = 0;
 
-    public static void main(String[] args) throws IOException, ReflectiveOperationException {
+    public static void main(String[] args) throws IOException, InterruptedException, ReflectiveOperationException {
         List<String> page = Files.readAllLines(Path.of("README.md"), StandardCharsets.US_ASCII);
         new ReadmeTest().examples(page);
         table(page);
@@ -40,7 +38,7 @@ public final class ReadmeTest {
 
     // ---- the examples, each a method of a class that is made of them
 
-    private void examples(List<String> page) throws IOException, ReflectiveOperationException {
+    private void examples(List<String> page) throws IOException, InterruptedException, ReflectiveOperationException {
         for (int i = 0; i < page.size(); i++) {
             if (page.get(i).equals("```java")) {
                 int end = i + 1 + page.subList(i + 1, page.size()).indexOf("```");
@@ -78,13 +76,12 @@ public final class ReadmeTest {
         steps.append("}\n");
     }
 
-    private void run() throws IOException, ReflectiveOperationException {
+    private void run() throws IOException, InterruptedException, ReflectiveOperationException {
         Path folder = Files.createTempDirectory("readme");
         Path source = folder.resolve("Shown.java");
         Files.writeString(source, "public final class Shown {\n" + helpers + steps + "}\n");
-        JavaCompiler compiler = ToolProvider.getSystemJavaCompiler();
-        String classes = System.getProperty("java.class.path");
-        int wrong = compiler.run(null, null, null, "-cp", classes, "-d", folder.toString(), source.toString());
+        int wrong = new ProcessBuilder("javac", "-cp", System.getProperty("java.class.path"),
+                "-d", folder.toString(), source.toString()).inheritIO().start().waitFor();
         Check.due("the examples compile", wrong, 0);
         if (wrong == 0) {
             try (URLClassLoader loader = new URLClassLoader(new URL[] {folder.toUri().toURL()})) {
@@ -107,6 +104,7 @@ public final class ReadmeTest {
             if (row.matches()) {
                 rows.add(row.group(1));
                 row(row.group(1), row.group(2), row.group(5).trim());
+                bounds(row.group(1), row.group(2).split(", "), row.group(3));
             }
         }
         TreeSet<String> face = new TreeSet<>();
@@ -140,6 +138,43 @@ public final class ReadmeTest {
         Matcher answer = Pattern.compile("`(\\S+)`.*").matcher(refused);
         Check.due("what refused calls of " + name + " answer is told first", answer.matches(), true);
         due("a refused " + name, method.invoke(court, noSuchThings(method)), answer.group(1).replace("NONE", "-1"));
+    }
+
+    /** Where all that a call takes is told by bounds: a new object takes it at them, and not beside them. */
+    private static void bounds(String name, String[] numbers, String takes) throws ReflectiveOperationException {
+        List<long[]> bounds = new ArrayList<>();
+        Matcher found = Pattern.compile("(\\d+) \\.\\. (\\d+)").matcher(takes);
+        while (found.find()) {
+            bounds.add(new long[] {Long.parseLong(found.group(1)), Long.parseLong(found.group(2))});
+        }
+        boolean needsMore = "end cut draw force".contains(name);
+        if (bounds.size() < numbers.length - (name.equals("slip") ? 1 : 0) || needsMore) {
+            return;
+        }
+        for (int i = 0; i < bounds.size(); i++) {
+            for (int side = 0; side < 2; side++) {
+                long bound = bounds.get(i)[side];
+                Check.due(name + " takes " + bound, isRefused(name, numbers.length, bounds, i, bound), false);
+                Check.due(name + " does not take what is beside " + bound,
+                        isRefused(name, numbers.length, bounds, i, bound + (side == 0 ? -1 : 1)), true);
+            }
+        }
+    }
+
+    private static boolean isRefused(String name, int count, List<long[]> bounds, int which, long number)
+            throws ReflectiveOperationException {
+        for (Method m : ChequeredCloth.class.getDeclaredMethods()) {
+            if (m.getName().equals(name)) {
+                Object[] numbers = new Object[count];
+                for (int i = 0; i < count; i++) {
+                    long n = i == which ? number : i < bounds.size() ? bounds.get(i)[0] : 0;
+                    numbers[i] = m.getParameterTypes()[i] == long.class ? (Object) n : (Object) (int) n;
+                }
+                Object got = m.invoke(new ChequeredCloth(), numbers);
+                return String.valueOf(got).matches("false|-1|-2|-2000000000000");
+            }
+        }
+        return true;
     }
 
     private static Object[] noSuchThings(Method method) {
